@@ -118,7 +118,7 @@ public final class HashTree {
             return 0;
         }
         refresh();
-        int parting = parting(key, nearest.key);
+        int parting = partingLevel(key, nearest.key);
         int level = 0;
         Node node = top;
         while (node instanceof Branch branch && branch.level < parting) {
@@ -177,7 +177,7 @@ public final class HashTree {
     }
 
     /** The first bit in which two keys differ; BITS when there is none. */
-    private static int parting(long[] one, long[] other) {
+    private static int partingLevel(long[] one, long[] other) {
         for (int i = 0; i < NUMBERS; i++) {
             long differing = one[i] ^ other[i];
             if (differing != 0L) {
@@ -198,7 +198,7 @@ public final class HashTree {
 
     private Leaf leafOfKey() {
         Leaf nearest = nearestLeaf();
-        return nearest != null && parting(key, nearest.key) == BITS ? nearest : null;
+        return nearest != null && partingLevel(key, nearest.key) == BITS ? nearest : null;
     }
 
     /**
@@ -222,7 +222,7 @@ public final class HashTree {
             top = leaf;
             return;
         }
-        int level = parting(key, nearest.key);
+        int level = partingLevel(key, nearest.key);
         Branch above = stalePath(level);
         Node below = above == null ? top : above.half(isOne(key, above.level));
         below.fresh = false;

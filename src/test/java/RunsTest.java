@@ -38,7 +38,7 @@ public final class RunsTest {
 
     private void oneCall(int call) {
         int i = random.nextInt(6) - 1;
-        switch (random.nextInt(16)) {
+        switch (random.nextInt(18)) {
             case 0, 1, 2, 3, 4 -> {
                 drawKey();
                 x.key(key[0], key[1], key[2], key[3]);
@@ -61,12 +61,12 @@ public final class RunsTest {
                 int k = siblings - random.nextInt(siblings + 3) + 1;
                 due(call, "sibling " + k + " " + i, x.sibling(k, i), model.sibling(k, i));
             }
-            default -> {
+            case 15 -> {
                 int what = random.nextInt(4) - 1;
                 due(call, "endNumber " + what + " " + i, x.endNumber(what, i), model.endNumber(what, i));
-                due(call, "ending", x.ending(), model.ending());
-                due(call, "count", x.count(), model.count());
             }
+            case 16 -> due(call, "ending", x.ending(), model.ending());
+            default -> due(call, "count", x.count(), model.count());
         }
     }
 
