@@ -27,6 +27,7 @@ public final class FaceTest {
 
     public static void main(String[] args) {
         Check check = new Check();
+        check.sentence("The public face");
         Set<String> face = new TreeSet<>();
         for (Constructor<?> made : HashTree.class.getDeclaredConstructors()) {
             addOpen(face, made.getModifiers(), made.toString());

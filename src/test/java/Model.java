@@ -86,15 +86,12 @@ final class Model {
         return number(what == 0 ? end.key : end.value, i);
     }
 
-    static long digest(long bytes, int n, int times, int i) {
-        if (n < 0 || n > 8 || times < 0 || times > 500) {
-            return 0L;
-        }
+    static long[] digest(long bytes, int n, int times) {
         byte[] row = new byte[n * times];
         for (int at = 0; at < row.length; at++) {
             row[at] = (byte) (bytes >>> 8 * (n - 1 - at % n));
         }
-        return number(sha256(row), i);
+        return sha256(row);
     }
 
     static long[] join(int mark, long[] left, long[] right) {
@@ -132,7 +129,7 @@ final class Model {
         return half;
     }
 
-    private static long[] sha256(byte[] row) {
+    static long[] sha256(byte[] row) {
         try {
             ByteBuffer digest = ByteBuffer.wrap(MessageDigest.getInstance("SHA-256").digest(row));
             return new long[] {digest.getLong(), digest.getLong(), digest.getLong(), digest.getLong()};

@@ -8,6 +8,7 @@ public final class RoomTest {
 
     public static void main(String[] args) {
         Check check = new Check();
+        check.sentence("What an object makes stays small");
         ThreadMXBean threads = (ThreadMXBean) ManagementFactory.getThreadMXBean();
         HashTree x = everyCall(new HashTree());
 

@@ -23,6 +23,7 @@ public final class RunsTest {
 
     public static void main(String[] args) {
         Check check = new Check();
+        check.sentence("All promises, in drawn runs of 512 calls");
         for (int seed = 0; seed < RUNS; seed++) {
             RunsTest run = new RunsTest(check, seed);
             for (int call = 0; call < CALLS; call++) {
@@ -38,7 +39,7 @@ public final class RunsTest {
 
     private void oneCall(int call) {
         int i = random.nextInt(6) - 1;
-        switch (random.nextInt(18)) {
+        switch (random.nextInt(19)) {
             case 0, 1, 2, 3, 4 -> {
                 drawKey();
                 x.key(key[0], key[1], key[2], key[3]);
@@ -66,6 +67,14 @@ public final class RunsTest {
                 due(call, "endNumber " + what + " " + i, x.endNumber(what, i), model.endNumber(what, i));
             }
             case 16 -> due(call, "ending", x.ending(), model.ending());
+            case 17 -> {
+                int n = random.nextInt(11) - 1;
+                int times = random.nextBoolean() ? random.nextInt(66) - 1 : 495 + random.nextInt(8);
+                boolean wrong = n < 0 || n > 8 || times < 0 || times > 500 || i < 0 || i > 3;
+                long bytes = random.nextLong();
+                due(call, "digest " + bytes + " " + n + " " + times + " " + i,
+                    x.digest(bytes, n, times, i), wrong ? 0 : Model.digest(bytes, n, times)[i]);
+            }
             default -> due(call, "count", x.count(), model.count());
         }
     }
